@@ -21,7 +21,7 @@ public final class FormSpeller {
     private static final int MOST_ROWS = 8;
     private static final int MOST_HELD = 6;
     private static final int MOST_CLASH = 4;
-    private static final int MOST_TWICE = 4;
+    private static final int SHORT_WORD = 4;
     private static final int MOST_SPELLINGS = 200;
     /** Six LETTERS with an INSERT ahead of each and one behind all. */
     private static final int WIDEST = 13;
@@ -32,6 +32,8 @@ public final class FormSpeller {
     private static final int SYMBOLS = 17;
     private static final int ANY_SYMBOL = (1 << SYMBOLS) - 1;
     private static final int UNFIT = -21;
+    /** More than any number of letters or faults that can be; what can't be reached at all is so far. */
+    private static final int FAR = 1000;
 
     private final Text text = new Text();
     private final Alphabet alphabet = new Alphabet();
@@ -89,7 +91,7 @@ public final class FormSpeller {
         alphabet.replace(text);
         rules.size = 0;
         rules.learn(alphabet);
-        lexicon.size = 0;
+        lexicon.clear();
         kept.size = 0;
         machine.stale = true;
         return alphabet.size;
@@ -250,7 +252,7 @@ public final class FormSpeller {
         }
         prepare();
         walk.begin(Walk.ROWS);
-        return walk.ways(n, 0, 0);
+        return walk.waysFrom(n);
     }
 
     public int holds(int pair) {
@@ -265,7 +267,7 @@ public final class FormSpeller {
         walk.begin(Walk.HOLDS);
         walk.wanted = pair;
         kept.size = 0;
-        walk.list(2 * fewest, 0, 0, 0);
+        walk.keepFrom(2 * fewest);
         return fewest;
     }
 
@@ -336,11 +338,8 @@ public final class FormSpeller {
         prepare();
         walk.begin(kind);
         kept.size = 0;
-        long ways = walk.ways(stage, 0, 0);
-        if (ways > 0) {
-            walk.list(stage, 0, 0, 0);
-        }
-        return ways;
+        walk.keepFrom(stage);
+        return walk.waysFrom(stage);
     }
 
     public int closest() {
@@ -350,9 +349,8 @@ public final class FormSpeller {
     }
 
     private int bringNear() {
-        memo.clear();
-        int least = nearest.least(0, 0, rules.start(), 0);
-        if (least >= Nearest.FAR) {
+        int least = nearest.leastOfAll();
+        if (least >= FAR) {
             return -2;
         }
         kept.size = 0;
@@ -416,7 +414,7 @@ public final class FormSpeller {
     }
 
     public int twice(int n) {
-        if (n < 1 || n > MOST_TWICE) {
+        if (n < 1 || n > SHORT_WORD) {
             return NONE;
         }
         lexicon.seekDoubles(n);
@@ -439,7 +437,7 @@ public final class FormSpeller {
             case 3:
                 return lexicon.wordsWith(entry, MOST_LETTERS) > 0 ? 1 : 0;
             case 4:
-                return lexicon.wordsWith(entry, MOST_TWICE);
+                return lexicon.wordsWith(entry, SHORT_WORD);
             default:
                 return NONE;
         }
@@ -459,8 +457,7 @@ public final class FormSpeller {
             case 3:
                 return rules.rightParts[rule];
             case 4:
-                memo.clear();
-                return nearest.heldBack(rule, 3, rules.start(), false);
+                return nearest.rowsHeldBack(rule);
             default:
                 return NONE;
         }
@@ -711,7 +708,7 @@ public final class FormSpeller {
             return 0;
         }
 
-        /** What a sign in a PART stands for, as bits by codes (bit 0: nothing); 0 for a sign that can't stand in one. */
+        /** What a sign in a PART stands for, as bits by codes (bit 0: nothing); 0: it can't stand in one. */
         int meaningOf(int sign) {
             int code = codeOf(sign);
             if (code > 0 || sign == '0') {
@@ -1071,7 +1068,7 @@ public final class FormSpeller {
         }
 
         int mayFollow(int s) {
-            return (int) keys[s] & ANY_SYMBOL;
+            return s >= 0 && s < size ? (int) keys[s] & ANY_SYMBOL : 0;
         }
 
         boolean mayEnd(int s) {
@@ -1079,20 +1076,21 @@ public final class FormSpeller {
         }
 
         int behind(int s, int pair) {
-            return pair >= 0 && pair < MOST_PAIRS ? arcs[s * MOST_PAIRS + pair] : NONE;
+            boolean there = s >= 0 && s < size && pair >= 0 && pair < MOST_PAIRS;
+            return there ? arcs[s * MOST_PAIRS + pair] : NONE;
         }
     }
 
     /**
-     * Answers that one call has found already, by number. A stamp for each call saves emptying it. When it is full, what
-     * comes is not noted: it is found again where it is needed.
+     * Answers that one call has found already, by number. A stamp for each call saves emptying it. When it is full,
+     * what comes is not noted: it is found again where it is needed.
      */
     private static final class Memo {
         private static final int MOST_ROOM = 1 << 16;
 
-        int[] keys = new int[256];
+        /** The number of the call in the high half, the key in the low one. */
+        long[] tags = new long[256];
         long[] values = new long[256];
-        int[] stamps = new int[256];
         int stamp = 1;
         int used;
 
@@ -1101,12 +1099,16 @@ public final class FormSpeller {
             used = 0;
         }
 
+        private boolean isFree(int at) {
+            return (int) (tags[at] >>> 32) != stamp;
+        }
+
         /** Where a key is, or the free place where it would be. */
         private int placeOf(int key) {
-            int mask = keys.length - 1;
+            int mask = tags.length - 1;
             int at = (key ^ key >>> 7 ^ key >>> 15) & mask;
-            for (int k = 0; k < keys.length; k++) {
-                if (stamps[at] != stamp || keys[at] == key) {
+            for (int k = 0; k < tags.length; k++) {
+                if (isFree(at) || (int) tags[at] == key) {
                     return at;
                 }
                 at = at + 1 & mask;
@@ -1116,12 +1118,12 @@ public final class FormSpeller {
 
         long find(int key) {
             int at = placeOf(key);
-            return at != NONE && stamps[at] == stamp ? values[at] : NONE;
+            return at == NONE || isFree(at) ? NONE : values[at];
         }
 
         void put(int key, long value) {
-            if (2 * used >= keys.length) {
-                if (keys.length >= MOST_ROOM) {
+            if (2 * used >= tags.length) {
+                if (tags.length >= MOST_ROOM) {
                     return;
                 }
                 grow();
@@ -1130,28 +1132,23 @@ public final class FormSpeller {
             if (at == NONE) {
                 return;
             }
-            if (stamps[at] != stamp) {
+            if (isFree(at)) {
                 used++;
             }
-            keys[at] = key;
+            tags[at] = (long) stamp << 32 | key;
             values[at] = value;
-            stamps[at] = stamp;
         }
 
         private void grow() {
-            int[] oldKeys = keys;
+            long[] oldTags = tags;
             long[] oldValues = values;
-            int[] oldStamps = stamps;
-            int room = 4 * oldKeys.length;
-            keys = new int[room];
-            values = new long[room];
-            stamps = new int[room];
-            for (int i = 0; i < oldKeys.length; i++) {
-                int at = oldStamps[i] == stamp ? placeOf(oldKeys[i]) : NONE;
+            tags = new long[4 * oldTags.length];
+            values = new long[4 * oldTags.length];
+            for (int i = 0; i < oldTags.length; i++) {
+                int at = (int) (oldTags[i] >>> 32) == stamp ? placeOf((int) oldTags[i]) : NONE;
                 if (at != NONE) {
-                    keys[at] = oldKeys[i];
+                    tags[at] = oldTags[i];
                     values[at] = oldValues[i];
-                    stamps[at] = stamp;
                 }
             }
         }
@@ -1169,12 +1166,19 @@ public final class FormSpeller {
         /** By CLASS and LETTERS so far: in how many ways an ENTRY of the CLASS may begin there. */
         final long[] open = new long[CLASSES * WIDTH];
         /** By LETTERS so far, ENTRY and LETTERS of it: ways to have come there with the row of letters tried now. */
-        final int[] spots = new int[(MOST_TWICE + 1) * SPOTS];
+        final int[] spots = new int[(SHORT_WORD + 1) * SPOTS];
         /** By LETTERS so far and CLASS: likewise, ways for an ENTRY of the CLASS to begin. */
-        final int[] starts = new int[(MOST_TWICE + 1) * CLASSES];
+        final int[] starts = new int[(SHORT_WORD + 1) * CLASSES];
+        /** By CLASS: the fewest LETTERS with which a WORD goes on from there to its end. */
+        final int[] shortest = {FAR, FAR, FAR, FAR};
         int size;
         int doubles;
         int firstDouble;
+
+        void clear() {
+            size = 0;
+            Arrays.fill(shortest, FAR);
+        }
 
         void add(int ofGroup, int ofNext, Text text) {
             if (size >= MOST_ENTRIES) {
@@ -1187,6 +1191,20 @@ public final class FormSpeller {
                 forms[size * MOST_FORM + k] = text.first[k];
             }
             size++;
+            for (int k = 0; k < CLASSES; k++) {
+                shorten();
+            }
+        }
+
+        private void shorten() {
+            for (int e = 0; e < size; e++) {
+                shortest[group[e]] = Math.min(shortest[group[e]], lettersToEnd(e));
+            }
+        }
+
+        /** The fewest LETTERS of an ENTRY and of what must come behind it. */
+        int lettersToEnd(int e) {
+            return length[e] + (next[e] == NONE ? 0 : shortest[next[e]]);
         }
 
         /** How many WORDS of n LETTERS do without an ENTRY (NONE: all). */
@@ -1228,7 +1246,7 @@ public final class FormSpeller {
 
         /** Goes through the rows of letters with which WORDS begin, a .. z and then +. */
         private void tryLetters(int depth, int n) {
-            if (depth >= n || depth >= MOST_TWICE) {
+            if (depth >= n || depth >= SHORT_WORD) {
                 weighWhole(depth);
                 return;
             }
@@ -1382,8 +1400,16 @@ public final class FormSpeller {
             memo.clear();
         }
 
+        long waysFrom(int stage) {
+            return ways(stage, 0, 0);
+        }
+
+        void keepFrom(int stage) {
+            list(stage, 0, 0, 0);
+        }
+
         /** In how many ways a row goes on from a stage and a state to a good end. */
-        long ways(int stage, int state, int depth) {
+        private long ways(int stage, int state, int depth) {
             if (depth > DEEPEST || stage == NONE || state == NONE) {
                 return 0;
             }
@@ -1410,7 +1436,7 @@ public final class FormSpeller {
         }
 
         /** Keeps the first rows that go on from a stage and a state, behind what path and word hold already. */
-        void list(int stage, int state, int pairsDone, int entriesDone) {
+        private void list(int stage, int state, int pairsDone, int entriesDone) {
             if (kept.size >= most || ways(stage, state, 0) == 0) {
                 return;
             }
@@ -1526,18 +1552,20 @@ public final class FormSpeller {
             }
             int bits = 0;
             for (int e = 0; e < lexicon.size; e++) {
-                if (lexicon.group[e] == group && wordIn(stage) + lexicon.length[e] <= MOST_LETTERS) {
+                if (lexicon.group[e] == group && wordIn(stage) + lexicon.lettersToEnd(e) <= MOST_LETTERS) {
                     bits |= 1 << e;
                 }
             }
             return bits;
         }
 
+        /** In the last ENTRY it is no matter how long the WORD has become: left out, it makes fewer stages. */
         private int stageWith(int stage, int e) {
-            return stageOf(e, 0, wordIn(stage) + lexicon.length[e], stage % BASE);
+            int inWord = lexicon.next[e] == NONE ? 0 : wordIn(stage) + lexicon.length[e];
+            return stageOf(e, 0, inWord, stage % BASE);
         }
 
-        /** Of FINDS: the ENTRY (or what stands in its place), its LETTERS done, LETTERS of the WORD so far, LETTERS read. */
+        /** Of FINDS: the ENTRY or what stands in its place, its LETTERS done, those of the WORD so far, those read. */
         private static int stageOf(int e, int k, int inWord, int done) {
             return ((e * MOST_LETTERS + k) * BASE + inWord) * BASE + done;
         }
@@ -1557,8 +1585,6 @@ public final class FormSpeller {
 
     /** Looks through rows that may break rules, on trails instead of the machine's states. */
     private static final class Nearest {
-        static final int FAR = 1000;
-
         private final Text text;
         private final Alphabet alphabet;
         private final Rules rules;
@@ -1572,8 +1598,13 @@ public final class FormSpeller {
             this.memo = memo;
         }
 
+        int leastOfAll() {
+            memo.clear();
+            return least(0, 0, rules.start(), 0);
+        }
+
         /** The fewest faults with which a row goes on to the end of both sides, i and j LETTERS of which are done. */
-        int least(int i, int j, int trail, int depth) {
+        private int least(int i, int j, int trail, int depth) {
             if (depth > WIDEST) {
                 return FAR;
             }
@@ -1647,8 +1678,13 @@ public final class FormSpeller {
             return NONE;
         }
 
+        long rowsHeldBack(int rule) {
+            memo.clear();
+            return heldBack(rule, 3, rules.start(), false);
+        }
+
         /** How many rows with so many PAIRS more break a rule and no other one: those that it alone holds back. */
-        long heldBack(int rule, int more, int trail, boolean broken) {
+        private long heldBack(int rule, int more, int trail, boolean broken) {
             int key = (trail << 2 | more & 3) << 1 | (broken ? 1 : 0);
             long known = memo.find(key);
             if (known >= 0) {
@@ -1685,7 +1721,6 @@ public final class FormSpeller {
         private static final int BASE = MOST_LETTERS + 1;
         /** By the last three PAIRS, of which each can be one of three, and by LETTERS done: 27 * 7 at most. */
         private static final int ROOM = 200;
-        private static final int FAR = 1000;
 
         private final Text text;
         private final Alphabet alphabet;

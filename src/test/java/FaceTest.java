@@ -79,6 +79,7 @@ public final class FaceTest {
             check(fields <= 22, fields + " fields in " + c);
             for (Method m : c.getDeclaredMethods()) {
                 check(m.getParameterCount() <= 7, "parameters of " + m);
+                check(Arrays.stream(FACE).noneMatch(f -> f.contains(" " + m.getName() + "(")), "name of " + m);
             }
         }
     }
