@@ -291,7 +291,7 @@ public final class FormSpeller {
             return -2;
         }
         kept.size = 0;
-        kept.add(clash.best, fewest);
+        kept.add(clash.path, fewest);
         toldSize = 0;
         tell(clash.place);
         return fewest;
@@ -1860,14 +1860,14 @@ public final class FormSpeller {
 
     /**
      * Where two rules demand unlike things. A row with the fewest PAIRS for it has none but the PLACE, what stands one
-     * and two ahead of it and what stands just behind: any other could be left out.
+     * and two ahead of it and what stands just behind: any other could be left out. And of rows with the fewest PAIRS
+     * all have the PLACE alike: if it could be the last one and one ahead of that, a shorter row would do.
      */
     private static final class Clash {
         private final Alphabet alphabet;
         private final Rules rules;
         private final int[] fits = new int[MOST_CLASH];
-        private final int[] tried = new int[MOST_CLASH];
-        final int[] best = new int[MOST_CLASH];
+        final int[] path = new int[MOST_CLASH];
         int place;
 
         Clash(Alphabet alphabet, Rules rules) {
@@ -1875,15 +1875,16 @@ public final class FormSpeller {
             this.rules = rules;
         }
 
-        /** The fewest PAIRS, NONE if there is no such row; best and place are the first such row and PLACE. */
+        /** The fewest PAIRS, NONE if there is no such row; path and place are the first such row and its PLACE. */
         int fewest(int a, int b) {
             if (!demandUnlike(a, b)) {
                 return NONE;
             }
             for (int n = 1; n <= MOST_CLASH; n++) {
-                if (findsBest(a, b, n)) {
-                    place = firstPlace(a, b, n);
-                    return n;
+                for (place = Math.max(0, n - 2); place <= 2 && place < n; place++) {
+                    if (learnFits(a, b, n) && writeFirst(n)) {
+                        return n;
+                    }
                 }
             }
             return NONE;
@@ -1902,36 +1903,25 @@ public final class FormSpeller {
             return oneBars && x == y;
         }
 
-        private boolean findsBest(int a, int b, int n) {
-            boolean found = false;
-            for (int at = Math.max(0, n - 2); at <= 2 && at < n; at++) {
-                if (learnFits(a, b, n, at) && writeFirst(n) && (!found || isTriedFirst(n))) {
-                    System.arraycopy(tried, 0, best, 0, n);
-                    found = true;
-                }
-            }
-            return found;
-        }
-
-        /** Which PAIRS may stand where in a row of n, if the PLACE is at; false if an end is where none may be. */
-        private boolean learnFits(int a, int b, int n, int at) {
+        /** Which PAIRS may stand where in a row of n; false if an end is where none may be. */
+        private boolean learnFits(int a, int b, int n) {
             int far = rules.far[a] & rules.far[b];
             int near = rules.near[a] & rules.near[b];
             int behind = rules.behind[a] & rules.behind[b];
-            boolean nearEdge = at > 0 || (near >> EDGE & 1) != 0;
-            boolean farEdge = at != 1 || (far >> EDGE & 1) != 0;
-            boolean behindEdge = at + 1 < n || (behind >> EDGE & 1) != 0;
+            boolean nearEdge = place > 0 || (near >> EDGE & 1) != 0;
+            boolean farEdge = place != 1 || (far >> EDGE & 1) != 0;
+            boolean behindEdge = place + 1 < n || (behind >> EDGE & 1) != 0;
             if (!nearEdge || !farEdge || !behindEdge) {
                 return false;
             }
             int there = alphabet.all();
             for (int i = 0; i < n; i++) {
                 int may = alphabet.byUpper[alphabet.upper[rules.pair[a]]];
-                if (i == at - 2) {
+                if (i == place - 2) {
                     may = far & there;
-                } else if (i == at - 1) {
+                } else if (i == place - 1) {
                     may = near & there;
-                } else if (i == at + 1) {
+                } else if (i == place + 1) {
                     may = behind & there;
                 }
                 fits[i] = may;
@@ -1948,11 +1938,11 @@ public final class FormSpeller {
             }
             int may = ~0;
             for (int i = 0; i < n; i++) {
-                tried[i] = lowestOf(fits[i] & may);
-                if (tried[i] == NONE) {
+                path[i] = lowestOf(fits[i] & may);
+                if (path[i] == NONE) {
                     return false;
                 }
-                may = alphabet.isInsert(tried[i]) ? ~alphabet.inserts : ~0;
+                may = alphabet.isInsert(path[i]) ? ~alphabet.inserts : ~0;
             }
             return true;
         }
@@ -1964,33 +1954,6 @@ public final class FormSpeller {
                 }
             }
             return NONE;
-        }
-
-        private boolean isTriedFirst(int n) {
-            for (int i = 0; i < n; i++) {
-                if (tried[i] != best[i]) {
-                    return tried[i] < best[i];
-                }
-            }
-            return false;
-        }
-
-        private int firstPlace(int a, int b, int n) {
-            for (int at = 0; at < n; at++) {
-                if (n - at <= 2 && at <= 2 && learnFits(a, b, n, at) && bestFits(n)) {
-                    return at;
-                }
-            }
-            return NONE;
-        }
-
-        private boolean bestFits(int n) {
-            for (int i = 0; i < n; i++) {
-                if ((fits[i] >> best[i] & 1) == 0) {
-                    return false;
-                }
-            }
-            return true;
         }
     }
 }

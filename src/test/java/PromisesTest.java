@@ -202,7 +202,8 @@ public final class PromisesTest {
         promise = 6;
         FormSpeller f = with("a b a:b +:0 0:e", "V=a", "W=b+");
         String[] bad = {"", "a", "a:", "a:b", "ab", "A:b=>_", "V:b=>_", "a:V=>_", "a:b=", "a:b==", "a:b<", "a:b<>",
-            "a:b<=", "a:b/=", "a:b/<", "a:b/<=>", "a:b<=>>", "a:b=>", "a:b=>a", "a:b=>abc_", "a:b=>a:bb:aa_", "a:b=>..:b_",
+            "a:b<=", "a:b/=", "a:b/<", "a:b/<=>", "a:b<=>>", "a:b=>", "a:b=>a", "a:b=>abc_", "a:b=>a:bb:aa_",
+            "a:b=>..:b_",
             "a:b=>a#_", "a:b=>##_", "a:b=>X_", "a:b=>a:_", "a:b=>:_", "a:b=>_a:", "a:b=>_ab", "a:b=>_##", "a:b=>_a:b:b",
             "a:b=>__", "a:b=>_.#", "a:b=>_ ", "a:b=> _", "a:b=>a:#_", "a:b=>a:._", "a:b=>_#:a", "a:b=>a:b:a:a_"};
         int[] at = {0, 1, 2, 3, 1, 0, 0, 2, 4, 4, 4, 4, 5,
@@ -237,8 +238,11 @@ public final class PromisesTest {
         due(f.drops(-1), NONE, "drops(-1)");
         due(f.drops(Integer.MIN_VALUE), NONE, "drops(least)");
         due(f.drops(0), 7, "drops(0)");
-        due(f.ruleOf(0, 1), 1, "the next one");
-        due(f.ruleOf(1, 2), 2, "the one behind");
+        for (int i = 1; i < good.length; i++) {
+            for (int what = 0; what < 4; what++) {
+                due(f.ruleOf(i - 1, what), told[i][what], "ruleOf(" + (i - 1) + ", " + what + ") behind drops(0)");
+            }
+        }
         due(f.drops(6), 6, "drops the last one");
         due(f.drops(6), NONE, "drops none");
         FormSpeller g = with("a b", "a:a/<=_", "b:b/<=_");
@@ -430,6 +434,14 @@ public final class PromisesTest {
         due(f.conflict(3, 4), 2, "# two ahead");
         dueKept(f, "4 0");
         dueRow(f, 1);
+        f = with("0:x a 0:e 0:f", "0:e<=._", "0:f<=_.", "0:e<=.:x_", "0:f<=.._");
+        due(f.conflict(0, 1), 3, "no INSERT ahead of an INSERT, nor behind");
+        dueKept(f, "1 0 1");
+        dueRow(f, 1);
+        due(f.conflict(2, 3), -2, "no row, since :x is an INSERT alone");
+        due(f.conflict(0, 3), 3, "an INSERT two ahead");
+        dueKept(f, "0 1 0");
+        dueRow(f, 2);
     }
 
     private static void spelling() {
@@ -503,6 +515,14 @@ public final class PromisesTest {
         due(tell(f, "b").finds(), 1 * 2 + 2 * (3 + 4 + 5 + 6 + 7), "finds() of b at n + 1 places");
         due(keptWord(f, 0).equals("0 0 0 0 0 1"), true, "the first WORD goes by its first ENTRY, then its PAIRS");
         due(keptRow(f, 0).equals("2 2 2 2 2 2 3"), true, "its row");
+
+        f = with("a");
+        for (int group = 0; group < 4; group++) {
+            tell(f, "a").entry(group, group < 3 ? group + 1 : NONE);
+        }
+        due(tell(f, "aaaa").finds(), 1, "through all CLASSES");
+        due(keptWord(f, 0).equals("0 1 2 3"), true, "its WORD");
+        due(tell(f, "aaa").finds(), 0, "not to the end");
     }
 
     private static void nearest() {
@@ -552,6 +572,9 @@ public final class PromisesTest {
         due(tell(f, "aaaaaa").spellings(), 1, "6 LETTERS at most");
         due(tell(f, "aaaaa").spellings(), 7, "6 LETTERS at most");
         due(tell(f, "b").spellings(), 0, "of no PAIR's sign");
+        f = with("0:e b:0", "b:0=>0_");
+        due(tell(f, "bbbbb").spellings(), 2, "what has no LOWER sign takes no LETTER");
+        due(tell(f, "bbbbbb").spellings(), 1, "a seventh LETTER is too many");
         due(tell(f, "").spellings(), -21, "none");
         due(tell(f, "aaaaaaa").spellings(), -27, "seven");
         due(tell(f, "a=").spellings(), -22, "another sign");
