@@ -1881,7 +1881,8 @@ public final class FormSpeller {
                 return NONE;
             }
             for (int n = 1; n <= MOST_CLASH; n++) {
-                for (place = Math.max(0, n - 2); place <= 2 && place < n; place++) {
+                for (int at = Math.max(0, n - 2); at <= 2 && at < n; at++) {
+                    place = at;
                     if (learnFits(a, b, n) && writeFirst(n)) {
                         return n;
                     }
