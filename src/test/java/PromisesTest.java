@@ -1,97 +1,7 @@
-import java.util.NoSuchElementException;
-
 /** The document's promises one by one: ordinary inputs, the edges that it names, wrong inputs. */
-public final class PromisesTest {
-    private static final int NONE = FormSpeller.NONE;
-    private static int wrong = 0;
-    private static int promise = 0;
-
-    private interface Call {
-        long answer();
-    }
-
-    private static void due(long got, long want, String what) {
-        if (got != want) {
-            wrong++;
-            System.out.println("promise " + promise + ": " + what + " answered " + got + ", due is " + want);
-        }
-    }
-
-    private static void due(boolean got, boolean want, String what) {
-        due(got ? 1 : 0, want ? 1 : 0, what);
-    }
-
-    private static void throwsNone(Call call, String what) {
-        try {
-            long got = call.answer();
-            wrong++;
-            System.out.println("promise " + promise + ": " + what + " answered " + got + ", due is an exception");
-        } catch (NoSuchElementException e) {
-            // as due
-        }
-    }
-
-    private static FormSpeller tell(FormSpeller f, String s) {
-        for (int i = 0; i < s.length(); i += 4) {
-            int v = 0;
-            for (int j = i; j < i + 4; j++) {
-                v = v << 8 | (j < s.length() ? s.charAt(j) : 'q');
-            }
-            f.sign(v);
-        }
-        if (!f.end(s.length())) {
-            throw new IllegalStateException("too long: " + s);
-        }
-        return f;
-    }
-
-    private static FormSpeller with(String pairs, String... rules) {
-        FormSpeller f = new FormSpeller();
-        if (tell(f, pairs).pairs() < 0) {
-            throw new IllegalStateException(pairs);
-        }
-        for (String r : rules) {
-            boolean set = r.charAt(1) == '=';
-            if ((set ? tell(f, r).names() : tell(f, r).rule()) < 0) {
-                throw new IllegalStateException(r);
-            }
-        }
-        return f;
-    }
-
-    private static String keptRow(FormSpeller f, int i) {
-        StringBuilder b = new StringBuilder();
-        for (int k = 0; k < f.kept(i, NONE); k++) {
-            b.append(b.length() == 0 ? "" : " ").append(f.kept(i, k));
-        }
-        return b.toString();
-    }
-
-    private static String keptWord(FormSpeller f, int i) {
-        StringBuilder b = new StringBuilder();
-        for (int k = 0; k < f.word(i, NONE); k++) {
-            b.append(b.length() == 0 ? "" : " ").append(f.word(i, k));
-        }
-        return b.toString();
-    }
-
-    private static void dueRow(FormSpeller f, long... numbers) {
-        due(f.count(5), numbers.length, "numbers of the ROW");
-        for (int i = 0; i < numbers.length && i < f.count(5); i++) {
-            due(f.row(i), numbers[i], "row(" + i + ")");
-        }
-    }
-
-    private static void dueKept(FormSpeller f, String... rows) {
-        due(f.count(4), rows.length, "those KEPT");
-        for (int i = 0; i < rows.length && i < f.count(4); i++) {
-            String got = keptRow(f, i);
-            due(got.equals(rows[i]), true, "kept " + i + " is " + got + " for " + rows[i] + ": that");
-        }
-    }
-
+public final class PromisesTest extends Checks {
     private static void newObject() {
-        promise = 1;
+        on("promise 1");
         FormSpeller f = new FormSpeller();
         for (int what = 0; what <= 7; what++) {
             due(f.count(what), 0, "count(" + what + ")");
@@ -110,7 +20,7 @@ public final class PromisesTest {
     }
 
     private static void signs() {
-        promise = 2;
+        on("promise 2");
         FormSpeller f = new FormSpeller();
         for (int n = 4; n <= 80; n += 4) {
             due(f.sign(-1), n, "sign");
@@ -126,7 +36,7 @@ public final class PromisesTest {
         due(f.sign(0x80000000), 4, "sign of a high byte");
         due(f.pairs(), -21, "pairs() of it");
 
-        promise = 3;
+        on("promise 3");
         f.sign(0x61616161);
         due(f.end(5), false, "end(5)");
         due(f.end(-1), false, "end(-1)");
@@ -142,7 +52,7 @@ public final class PromisesTest {
     }
 
     private static void pairs() {
-        promise = 4;
+        on("promise 4");
         FormSpeller f = new FormSpeller();
         due(tell(f, "a b a:b +:0 0:e + 0:+").pairs(), 7, "pairs()");
         due(f.count(6), 0, "signs behind pairs()");
@@ -178,7 +88,7 @@ public final class PromisesTest {
     }
 
     private static void names() {
-        promise = 5;
+        on("promise 5");
         FormSpeller f = new FormSpeller();
         due(tell(f, "V=aeiou").names(), 1, "names()");
         due(tell(f, "Z=abcdefghijklmnopqrstuvwxyz").names(), 2, "26 LETTERS");
@@ -199,7 +109,7 @@ public final class PromisesTest {
     }
 
     private static void rules() {
-        promise = 6;
+        on("promise 6");
         FormSpeller f = with("a b a:b +:0 0:e", "V=a", "W=b+");
         String[] bad = {"", "a", "a:", "a:b", "ab", "A:b=>_", "V:b=>_", "a:V=>_", "a:b=", "a:b==", "a:b<", "a:b<>",
             "a:b<=", "a:b/=", "a:b/<", "a:b/<=>", "a:b<=>>", "a:b=>", "a:b=>a", "a:b=>abc_", "a:b=>a:bb:aa_",
@@ -233,7 +143,7 @@ public final class PromisesTest {
         due(f.ruleOf(7, 1), 1, "a refused rule leaves the eighth alone");
         due(f.count(6), 0, "THE TEXT is empty");
 
-        promise = 7;
+        on("promise 7");
         due(f.drops(8), NONE, "drops(8)");
         due(f.drops(-1), NONE, "drops(-1)");
         due(f.drops(Integer.MIN_VALUE), NONE, "drops(least)");
@@ -256,7 +166,7 @@ public final class PromisesTest {
     }
 
     private static void partsOfRules() {
-        promise = 6;
+        on("promise 6");
         String pairs = "a b a:b +:0 0:e";
         due(tell(with(pairs, "b:b/<=#_"), "b b").judges(), 1, "# ahead");
         due(tell(with(pairs, "b:b/<=_#"), "b b b").judges(), 1, "# behind");
@@ -277,7 +187,7 @@ public final class PromisesTest {
     }
 
     private static void entries() {
-        promise = 8;
+        on("promise 8");
         FormSpeller f = with("a b a:b +:0 0:e");
         due(tell(f, "a").entry(0, 3), 0, "entry()");
         due(tell(f, "ab+ab").entry(3, NONE), 1, "five LETTERS");
@@ -304,7 +214,7 @@ public final class PromisesTest {
     }
 
     private static void judgement() {
-        promise = 9;
+        on("promise 9");
         FormSpeller f = with("a b a:b +:0 0:e", "a:b=>_+", "a:b<=_+:0", "b:b/<=b_", "0:e<=>b_#");
         due(f.judges(), 0, "judges() of none");
         dueRow(f);
@@ -336,7 +246,7 @@ public final class PromisesTest {
     }
 
     private static void rows() {
-        promise = 10;
+        on("promise 10");
         FormSpeller f = with("a b 0:e");
         long plain = 1;
         long insert = 0;
@@ -360,7 +270,7 @@ public final class PromisesTest {
         due(g.rows(3), 0, "rows(3)");
         due(f.count(4), 0, "KEPT stays");
 
-        promise = 11;
+        on("promise 11");
         f = with("g f e d c b a", "b:b=>a_", "c:c=>b_", "d:d=>c_", "e:e=>d_", "f:f=>e_", "g:g=>f_");
         due(f.holds(1), 6, "holds() of six");
         dueKept(f, "6 5 4 3 2 1");
@@ -370,18 +280,18 @@ public final class PromisesTest {
         dueKept(f, "6 5 4 3 2 1");
         due(f.holds(6), 1, "holds() of one");
         dueKept(f, "6");
-        promise = 12;
+        on("promise 12");
         due(f.never(), 1, "never()");
         f.drops(0);
         due(f.never(), 0, "never()");
-        promise = 11;
+        on("promise 11");
         f = with("a b a:b +:0 0:e", "a:b=>_+", "+:0=>a_.");
         due(f.holds(2), 3, "holds(2)");
         dueKept(f, "2 3 0");
         f = with("0:e a 0:f", "0:f=>_.");
         due(f.holds(2), 2, "holds() of an INSERT");
         dueKept(f, "2 1");
-        promise = 12;
+        on("promise 12");
         f = with("a b c", "a:a/<=_", "c:c=>#._");
         due(f.never(), 1, "never()");
         f = with("a b c", "c:c=>0_");
@@ -390,7 +300,7 @@ public final class PromisesTest {
     }
 
     private static void conflicts() {
-        promise = 13;
+        on("promise 13");
         FormSpeller f = with("b a a:b +:0 0:e 0:f", "a:b<=_+:0", "a:a<=#_", "a:b/<=_", "a:b=>_", "b:b<=_", "0:e<=0_",
             "0:f<=_", "a:b<=>.._.");
         due(f.conflict(0, 1), 2, "conflict(0, 1)");
@@ -413,7 +323,7 @@ public final class PromisesTest {
         due(f.conflict(-1, 0), NONE, "no such RULE");
         dueKept(f, "0 0 1 0");
         dueRow(f, 2);
-        promise = 14;
+        on("promise 14");
         due(f.conflicts(), 3, "conflicts()");
         dueRow(f, 0, 1);
         dueKept(f, "0 0 1 0");
@@ -423,7 +333,7 @@ public final class PromisesTest {
         f.drops(4);
         due(f.conflicts(), 0, "conflicts()");
         dueRow(f);
-        promise = 13;
+        on("promise 13");
         f = with("a:b 0:e a 0:f c", "0:e<=_a", "0:f<=a_", "0:e/<=_", "a:a<=#._", "a:b<=c_");
         due(f.conflict(0, 1), 3, "of INSERTS");
         dueKept(f, "0 1 0");
@@ -445,7 +355,7 @@ public final class PromisesTest {
     }
 
     private static void spelling() {
-        promise = 15;
+        on("promise 15");
         FormSpeller f = with("a b a:b +:0 0:e", "a:b=>_+", "a:b<=_+:0");
         due(tell(f, "a+").spells(), 8, "spells()");
         dueKept(f, "0 4 3", "0 4 3 4", "2 3", "2 3 4", "4 0 4 3", "4 0 4 3 4", "4 2 3", "4 2 3 4");
@@ -467,7 +377,7 @@ public final class PromisesTest {
         due(tell(f, "aaaaaa").spells(), 1, "the longest one");
         dueKept(f, "0 1 0 1 0 1 0 1 0 1 0 1 0");
 
-        promise = 16;
+        on("promise 16");
         f = with("a +:0");
         due(tell(f, "a").reads(), 36, "reads()");
         due(f.count(4), 20, "KEPT");
@@ -486,7 +396,7 @@ public final class PromisesTest {
     }
 
     private static void finding() {
-        promise = 17;
+        on("promise 17");
         FormSpeller f = with("a b a:b +:0 0:e", "a:b=>_+", "a:b<=_+:0");
         tell(f, "a").entry(0, 1);
         tell(f, "b").entry(0, NONE);
@@ -526,7 +436,7 @@ public final class PromisesTest {
     }
 
     private static void nearest() {
-        promise = 18;
+        on("promise 18");
         FormSpeller f = with("a b a:b +:0 0:e", "a:b=>_+", "a:b<=_+:0");
         due(tell(f, "a+/a").closest(), 1, "closest()");
         dueKept(f, "0 3");
@@ -559,7 +469,7 @@ public final class PromisesTest {
         due(tell(f, "aaaaaa/bbbbbb").closest(), 0, "twelve PAIRS");
         due(f.kept(0, NONE), 12, "twelve PAIRS");
 
-        promise = 19;
+        on("promise 19");
         f = with("a:a a:b a:c a:d b:a b:b b:c b:d b:e c:a c:b c:c c:d c:e d:a d:b");
         due(tell(f, "abcd").spellings(), 200, "just 200");
         due(tell(f, "abcda").spellings(), 201, "more");
@@ -583,7 +493,7 @@ public final class PromisesTest {
 
     private static void keptOnes() {
         FormSpeller f = with("a b a:b +:0 0:e");
-        promise = 20;
+        on("promise 20");
         throwsNone(() -> f.kept(0, NONE), "kept() of none");
         tell(f, "+a").spells();
         due(f.count(4), 16, "KEPT");
@@ -596,7 +506,7 @@ public final class PromisesTest {
         throwsNone(() -> f.kept(16, 0), "kept(16, 0)");
         throwsNone(() -> f.kept(-1, 0), "kept(-1, 0)");
         throwsNone(() -> f.kept(Integer.MIN_VALUE, Integer.MAX_VALUE), "kept of far numbers");
-        promise = 21;
+        on("promise 21");
         due(f.side(0, 0, NONE), 2, "UPPER side");
         due(f.side(0, 0, 0), '+', "its first LETTER");
         due(f.side(0, 0, 1), 'a', "its second LETTER");
@@ -612,7 +522,7 @@ public final class PromisesTest {
         throwsNone(() -> f.side(0, 0, -2), "side(0, 0, -2)");
         throwsNone(() -> f.side(16, 0, 0), "side(16, 0, 0)");
         throwsNone(() -> f.side(-1, 0, 0), "side(-1, 0, 0)");
-        promise = 22;
+        on("promise 22");
         throwsNone(() -> f.word(0, NONE), "word() without a WORD");
         throwsNone(() -> f.word(0, 0), "word() without a WORD");
         tell(f, "a").entry(0, 2);
@@ -628,7 +538,7 @@ public final class PromisesTest {
         throwsNone(() -> f.word(-1, NONE), "word(-1, NONE)");
         tell(f, "a").spells();
         throwsNone(() -> f.word(0, NONE), "word() behind spells()");
-        promise = 28;
+        on("promise 28");
         tell(f, "a:b=>_+").rule();
         tell(f, "a a:b").judges();
         due(f.row(0), 0, "row(0)");
@@ -652,7 +562,7 @@ public final class PromisesTest {
     }
 
     private static void lexicon() {
-        promise = 23;
+        on("promise 23");
         FormSpeller f = withEntries();
         due(f.words(0), NONE, "words(0)");
         due(f.words(7), NONE, "words(7)");
@@ -661,7 +571,7 @@ public final class PromisesTest {
         due(f.words(2), 2, "words(2)");
         due(f.words(3), 3, "words(3)");
         due(f.words(6), 3, "words(6)");
-        promise = 24;
+        on("promise 24");
         due(f.twice(1), 0, "twice(1)");
         dueRow(f, 0);
         due(f.twice(2), 1, "twice(2)");
@@ -685,7 +595,7 @@ public final class PromisesTest {
         tell(g, "z").entry(0, NONE);
         due(g.twice(1), 2, "twice(1)");
         dueRow(g, 3);
-        promise = 25;
+        on("promise 25");
         long[][] told = {{0, 0, 1, 1, 6}, {0, NONE, 1, 1, 4}, {0, NONE, 2, 1, 3}, {0, 3, 2, 1, 2}, {3, NONE, 1, 1, 2},
             {2, NONE, 3, 0, 0}};
         f = withEntries();
@@ -708,7 +618,7 @@ public final class PromisesTest {
     }
 
     private static void others() {
-        promise = 26;
+        on("promise 26");
         FormSpeller f = with("a b", "b:b/<=b_", "b:b/<=.b_", "a:a=>_");
         due(f.ruleOf(0, 4), 1, "rows that rule 0 alone holds back: b b a");
         due(f.ruleOf(1, 4), 0, "rows that rule 1 alone holds back");
@@ -719,7 +629,7 @@ public final class PromisesTest {
         due(f.ruleOf(0, -1), NONE, "ruleOf(0, -1)");
         f = with("a b 0:e", "a:a/<=_");
         due(f.ruleOf(0, 4), 22 - 5, "INSERTS do not follow one another");
-        promise = 27;
+        on("promise 27");
         f = with("a 0:b b 0:e", "V=ab", "W=b", "a:a=>V_", "b:b=>_", "0:b<=_");
         for (int n = 0; n < 5; n++) {
             tell(f, "b").entry(0, NONE);
@@ -752,9 +662,6 @@ public final class PromisesTest {
         keptOnes();
         lexicon();
         others();
-        System.out.println(wrong == 0 ? "all promises are kept" : wrong + " answers are not as due");
-        if (wrong != 0) {
-            System.exit(1);
-        }
+        finish("all promises are kept");
     }
 }

@@ -5,7 +5,7 @@ import java.lang.management.ManagementFactory;
  * All calls of a run live in one room that is never cleared, so an object may make little: looked at here are the bytes
  * that dear calls make on an object as full as it can be, 512 of them, and those that a new object makes.
  */
-public final class RoomTest {
+public final class RoomTest extends Checks {
     private static final String LETTERS = "abcdefghijklmnop";
     private static final ThreadMXBean THREADS = (ThreadMXBean) ManagementFactory.getThreadMXBean();
     private static int wrong = 0;
@@ -20,18 +20,6 @@ public final class RoomTest {
             wrong++;
             System.out.println("that is more than " + most);
         }
-    }
-
-    private static FormSpeller tell(FormSpeller f, String s) {
-        for (int i = 0; i < s.length(); i += 4) {
-            int v = 0;
-            for (int j = i; j < i + 4; j++) {
-                v = v << 8 | (j < s.length() ? s.charAt(j) : 0);
-            }
-            f.sign(v);
-        }
-        f.end(s.length());
-        return f;
     }
 
     /** Pairs, sets and rules that tell as many rows of pairs apart as one can. */
