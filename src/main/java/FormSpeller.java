@@ -343,30 +343,23 @@ public final class FormSpeller {
     }
 
     public int closest() {
-        int answer = text.takesTwoRows(MOST_LETTERS) ? bringNear() : unfit();
+        boolean twoRows = text.takesTwoRows(MOST_LETTERS);
+        int answer = twoRows ? nearest.leastOfAll() : unfit();
+        if (answer >= FAR) {
+            answer = -2;
+        } else if (twoRows) {
+            kept.size = 0;
+            kept.add(nearest.path, nearest.trace(answer));
+        }
         text.clear();
         return answer;
-    }
-
-    private int bringNear() {
-        int least = nearest.leastOfAll();
-        if (least >= FAR) {
-            return -2;
-        }
-        kept.size = 0;
-        kept.add(nearest.path, nearest.trace(least));
-        return least;
     }
 
     public int spellings() {
-        int answer = text.takesOneRow(MOST_LETTERS) ? countSpellings() : unfit();
+        prepare();
+        int answer = text.takesOneRow(MOST_LETTERS) ? variety.countAll() : unfit();
         text.clear();
         return answer;
-    }
-
-    private int countSpellings() {
-        prepare();
-        return variety.countAll();
     }
 
     public int kept(int i, int k) throws NoSuchElementException {
@@ -1099,16 +1092,12 @@ public final class FormSpeller {
             used = 0;
         }
 
-        private boolean isFree(int at) {
-            return (int) (tags[at] >>> 32) != stamp;
-        }
-
         /** Where a key is, or the free place where it would be. */
         private int placeOf(int key) {
             int mask = tags.length - 1;
             int at = (key ^ key >>> 7 ^ key >>> 15) & mask;
             for (int k = 0; k < tags.length; k++) {
-                if (isFree(at) || (int) tags[at] == key) {
+                if ((int) (tags[at] >>> 32) != stamp || (int) tags[at] == key) {
                     return at;
                 }
                 at = at + 1 & mask;
@@ -1118,7 +1107,7 @@ public final class FormSpeller {
 
         long find(int key) {
             int at = placeOf(key);
-            return at == NONE || isFree(at) ? NONE : values[at];
+            return at == NONE || (int) (tags[at] >>> 32) != stamp ? NONE : values[at];
         }
 
         void put(int key, long value) {
@@ -1132,7 +1121,7 @@ public final class FormSpeller {
             if (at == NONE) {
                 return;
             }
-            if (isFree(at)) {
+            if ((int) (tags[at] >>> 32) != stamp) {
                 used++;
             }
             tags[at] = (long) stamp << 32 | key;
@@ -1166,9 +1155,11 @@ public final class FormSpeller {
         /** By CLASS and LETTERS so far: in how many ways an ENTRY of the CLASS may begin there. */
         final long[] open = new long[CLASSES * WIDTH];
         /** By LETTERS so far, ENTRY and LETTERS of it: ways to have come there with the row of letters tried now. */
-        final int[] spots = new int[(SHORT_WORD + 1) * SPOTS];
+        final int[] spots = new int[SHORT_WORD * SPOTS];
         /** By LETTERS so far and CLASS: likewise, ways for an ENTRY of the CLASS to begin. */
-        final int[] starts = new int[(SHORT_WORD + 1) * CLASSES];
+        final int[] starts = new int[SHORT_WORD * CLASSES];
+        /** By last LETTER: how many WORDS the row of letters tried now makes with it. */
+        final int[] wholes = new int[CODES];
         /** By CLASS: the fewest LETTERS with which a WORD goes on from there to its end. */
         final int[] shortest = {FAR, FAR, FAR, FAR};
         int size;
@@ -1246,8 +1237,8 @@ public final class FormSpeller {
 
         /** Goes through the rows of letters with which WORDS begin, a .. z and then +. */
         private void tryLetters(int depth, int n) {
-            if (depth >= n || depth >= SHORT_WORD) {
-                weighWhole(depth);
+            if (depth + 1 >= n || depth + 1 >= SHORT_WORD) {
+                weighLast(depth);
                 return;
             }
             int letters = lettersBehind(depth);
@@ -1259,29 +1250,33 @@ public final class FormSpeller {
             }
         }
 
-        private void weighWhole(int depth) {
-            int ways = 0;
+        /** The last LETTER is not tried one by one: a single look at the ENTRIES that end there tells all of them. */
+        private void weighLast(int depth) {
+            Arrays.fill(wholes, 0);
             for (int e = 0; e < size; e++) {
                 if (next[e] == NONE) {
-                    ways += spots[depth * SPOTS + e * MOST_FORM + length[e] - 1];
+                    int last = length[e] - 1;
+                    wholes[forms[e * MOST_FORM + last]] += waysTo(depth, e, last);
                 }
             }
-            if (ways >= 2) {
-                if (doubles == 0) {
-                    firstDouble = ways;
+            for (int code = 1; code < CODES; code++) {
+                if (wholes[code] >= 2) {
+                    firstDouble = doubles == 0 ? wholes[code] : firstDouble;
+                    doubles++;
                 }
-                doubles++;
             }
+        }
+
+        /** In how many ways LETTER k of an ENTRY may come behind the row of letters tried now. */
+        private int waysTo(int depth, int e, int k) {
+            return k == 0 ? starts[depth * CLASSES + group[e]] : spots[depth * SPOTS + e * MOST_FORM + k - 1];
         }
 
         private int lettersBehind(int depth) {
             int letters = 0;
             for (int e = 0; e < size; e++) {
-                if (starts[depth * CLASSES + group[e]] > 0) {
-                    letters |= 1 << forms[e * MOST_FORM];
-                }
-                for (int k = 1; k < length[e]; k++) {
-                    if (spots[depth * SPOTS + e * MOST_FORM + k - 1] > 0) {
+                for (int k = 0; k < length[e]; k++) {
+                    if (waysTo(depth, e, k) > 0) {
                         letters |= 1 << forms[e * MOST_FORM + k];
                     }
                 }
@@ -1298,11 +1293,7 @@ public final class FormSpeller {
             for (int e = 0; e < size; e++) {
                 for (int k = 0; k < length[e]; k++) {
                     int spot = e * MOST_FORM + k;
-                    int ways = 0;
-                    if (forms[spot] == code) {
-                        ways = k == 0 ? starts[depth * CLASSES + group[e]] : spots[depth * SPOTS + spot - 1];
-                    }
-                    spots[to + spot] = ways;
+                    spots[to + spot] = forms[spot] == code ? waysTo(depth, e, k) : 0;
                 }
                 if (next[e] != NONE) {
                     starts[toStarts + next[e]] += spots[to + e * MOST_FORM + length[e] - 1];
@@ -1739,16 +1730,17 @@ public final class FormSpeller {
 
         int countAll() {
             memo.clear();
+            fewestLetters(0, 0, 0);
             found = 0;
             sizes[0] = 0;
             put(0, 0, 0);
-            addSilent(0);
             goOn(0);
             return found;
         }
 
         private void goOn(int n) {
-            if (sizes[n] > 0 && hasWhole(n)) {
+            addSilent(n);
+            if (hasWhole(n)) {
                 found++;
             }
             if (n >= MOST_LETTERS) {
@@ -1799,7 +1791,6 @@ public final class FormSpeller {
             for (int i = 0; i < sizes[n]; i++) {
                 addBehind(spots[n * ROOM + i], code, n + 1);
             }
-            addSilent(n + 1);
         }
 
         /** Adds what PAIRS without LOWER sign lead to, from what is there and from what is added so. */
@@ -1821,10 +1812,10 @@ public final class FormSpeller {
         }
 
         private void put(int n, int state, int done) {
-            if (state == NONE || sizes[n] >= ROOM || n + fewestLetters(state, done, 0) > MOST_LETTERS) {
+            int spot = state * BASE + done;
+            if (state == NONE || sizes[n] >= ROOM || n + memo.find(spot) > MOST_LETTERS) {
                 return;
             }
-            int spot = state * BASE + done;
             for (int i = 0; i < sizes[n]; i++) {
                 if (spots[n * ROOM + i] == spot) {
                     return;
@@ -1834,7 +1825,7 @@ public final class FormSpeller {
             sizes[n]++;
         }
 
-        /** The fewest LETTERS of the LOWER side with which a row goes on from a spot to a good end. */
+        /** The fewest LETTERS of the LOWER side with which a row goes on from a spot to a good end; notes all spots. */
         private int fewestLetters(int state, int done, int depth) {
             if (state == NONE || depth > WIDEST) {
                 return FAR;
@@ -1845,7 +1836,7 @@ public final class FormSpeller {
                 return (int) known;
             }
             int fewest = done == text.firstSize && machine.mayEnd(state) ? 0 : FAR;
-            int fits = fewest == 0 ? 0 : pairsAt(state, done);
+            int fits = pairsAt(state, done);
             for (int p = 0; p < MOST_PAIRS && fits >> p != 0; p++) {
                 if ((fits >> p & 1) != 0) {
                     int own = alphabet.lower[p] == 0 ? 0 : 1;
