@@ -1154,7 +1154,10 @@ public final class FormSpeller {
         final int[] forms = new int[SPOTS];
         /** By CLASS and LETTERS so far: in how many ways an ENTRY of the CLASS may begin there. */
         final long[] open = new long[CLASSES * WIDTH];
-        /** By LETTERS so far, ENTRY and LETTERS of it: ways to have come there with the row of letters tried now. */
+        /**
+         * By LETTERS so far, ENTRY and LETTERS of it: ways to have come there with the row of letters tried now. Of no
+         * LETTERS so far there are none, so that part is never written.
+         */
         final int[] spots = new int[SHORT_WORD * SPOTS];
         /** By LETTERS so far and CLASS: likewise, ways for an ENTRY of the CLASS to begin. */
         final int[] starts = new int[SHORT_WORD * CLASSES];
@@ -1229,8 +1232,6 @@ public final class FormSpeller {
         void seekDoubles(int n) {
             doubles = 0;
             firstDouble = 0;
-            Arrays.fill(spots, 0);
-            Arrays.fill(starts, 0);
             starts[0] = 1;
             tryLetters(0, n);
         }

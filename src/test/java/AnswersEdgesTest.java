@@ -1,6 +1,6 @@
 import java.util.NoSuchElementException;
 
-/** The document's "Terms", part 2: ROW and KEPT, what refused calls leave as it was, which answer below 0 comes first. */
+/** The document's "Terms", part 2: ROW, KEPT, what refused calls leave as it was, which answer below 0 comes first. */
 public final class AnswersEdgesTest extends Checks {
     private static final long THROWS = 1L << 40;
     private static final long TRUE = 1;

@@ -13,7 +13,8 @@ public final class LexiconEdgesTest extends Checks {
 
     private static void words() {
         on("promise 23: How many WORDS of n (1 .. 6) LETTERS there are; NONE: another n");
-        FormSpeller f = entries("a 0 0", "b 0 -1", "ab 0 -1", "abc 0 1", "abc 1 -1", "abca 1 -1", "z 2 -1", "aaaaa 0 -1");
+        FormSpeller f = entries("a 0 0", "b 0 -1", "ab 0 -1", "abc 0 1", "abc 1 -1", "abca 1 -1", "z 2 -1",
+            "aaaaa 0 -1");
         due(f.words(0), NONE, "words(0)");
         long[] due = {1, 2, 2, 2, 3, 4};
         for (int n = 1; n <= 6; n++) {
@@ -240,7 +241,7 @@ public final class LexiconEdgesTest extends Checks {
     }
 
     private static void count() {
-        on("promise 27: What 0: PAIRS, 1: SETS, 2: RULES, 3: ENTRIES, 4: those KEPT, 5: numbers of the ROW, 6: signs, 7: INSERTS");
+        on("promise 27: 0: PAIRS, 1: SETS, 2: RULES, 3: ENTRIES, 4: KEPT, 5: numbers of the ROW, 6: signs, 7: INSERTS");
         FormSpeller f = with("0:a b a:b 0:b a b:a 0:+", "V=a", "W=b", "X=c", "b:b/<=_", "b:b/<=_", "b:b/<=_");
         for (int n = 0; n < 5; n++) {
             addEntry(f, "ab", 0, NONE);

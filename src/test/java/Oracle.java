@@ -73,6 +73,12 @@ final class Oracle {
         return s;
     }
 
+    /** Puts a whole text behind what there is, without sign() and end(). */
+    Oracle tell(String s) {
+        text += s;
+        return this;
+    }
+
     public int sign(int v) {
         if (text.length() > 76) {
             return -1;
@@ -377,6 +383,33 @@ final class Oracle {
         long[] sum = {0};
         each(new ArrayList<>(), null, null, n, true, r -> sum[0] += r.size() == n ? 1 : 0);
         return sum[0];
+    }
+
+    /** The same for many pairs and n > 0: what the last three pairs are is all that can matter to those behind. */
+    long goodRowsByTheirEnds(int n) {
+        Map<List<Integer>, Long> times = new LinkedHashMap<>();
+        times.put(new ArrayList<>(), 1L);
+        for (int k = 0; k < n; k++) {
+            Map<List<Integer>, Long> longer = new LinkedHashMap<>();
+            times.forEach((end, number) -> addPairs(end, number, longer));
+            times = longer;
+        }
+        long sum = 0;
+        for (Map.Entry<List<Integer>, Long> e : times.entrySet()) {
+            sum += isGoodAt(e.getKey(), e.getKey().size() - 1) ? e.getValue() : 0;
+        }
+        return sum;
+    }
+
+    private void addPairs(List<Integer> end, long number, Map<List<Integer>, Long> longer) {
+        for (int p = 0; p < pairs.size(); p++) {
+            int last = end.size() - 1;
+            List<Integer> r = new ArrayList<>(end);
+            r.add(p);
+            if (last < 0 || (!isInsert(p) || !isInsert(end.get(last))) && isGoodAt(r, last)) {
+                longer.merge(r.size() > 3 ? new ArrayList<>(r.subList(1, 4)) : r, number, Long::sum);
+            }
+        }
     }
 
     public long rows(int n) {

@@ -130,6 +130,13 @@ public final class RowsEdgesTest extends Checks {
         due(f.holds(3), -2, "seven, the PAIR within");
         due(f.holds(4), 4, "four, d on to g");
         dueKept(f, "4 5 6 7");
+        f = with("a b c", "b:b=>_a", "c:c=>_b", "a:a=>b_");
+        due(f.holds(0), 2, "PAIR 0 behind another");
+        dueKept(f, "1 0");
+        due(f.holds(1), 2, "one that needs PAIR 0 behind it");
+        dueKept(f, "1 0");
+        due(f.holds(2), 3, "one that needs that one behind it");
+        dueKept(f, "2 1 0");
 
         on("promise 11: KEPT: the first such one by ORDER");
         f = with("x y z w", "z:z=>._", "z:z/<=x_");
@@ -174,7 +181,7 @@ public final class RowsEdgesTest extends Checks {
         due(with("a b", "a:a/<=_").never(), 1, "the first");
         due(with("a b", "a:a/<=_", "b:b/<=_").never(), 3, "all");
         due(with(SIXTEEN, "p:p/<=_").never(), 1 << 15, "the sixteenth");
-        due(with(SIXTEEN, "p:p=>z_").never(), 1 << 15, "the sixteenth, ahead of which one that is not there must stand");
+        due(with(SIXTEEN, "p:p=>z_").never(), 1 << 15, "the sixteenth, that asks for a PAIR that is not there");
         due(with("a b c d e f g", "b:b=>a_", "c:c=>b_", "d:d=>c_", "e:e=>d_", "f:f=>e_", "g:g=>f_").never(), 1 << 6,
             "one that needs seven PAIRS, not that which needs six");
         due(with("a b c", "a:a/<=#_#").never(), 0, "one that can't be alone");
@@ -186,7 +193,7 @@ public final class RowsEdgesTest extends Checks {
     }
 
     private static void conflictDemands() {
-        on("promise 13: one of SORT 1 or 2 and the other likewise, of unlike PAIRS; or the other of SORT 3, of the same");
+        on("promise 13: one of SORT 1 or 2, the other likewise, of unlike PAIRS; or the other of SORT 3, of the same");
         String[] sorts = {"=>", "<=", "<=>", "/<="};
         for (int s = 0; s < 4; s++) {
             for (int t = 0; t < 4; t++) {

@@ -1,4 +1,4 @@
-/** Promises 15 to 22, both directions: each sentence that names an edge, with what is still so and what is no longer. */
+/** Promises 15 to 22, both directions: each sentence that names an edge, with what is still so and no longer. */
 public final class SidesEdgesTest extends Checks {
     private interface Ask {
         long of(FormSpeller f);
@@ -204,8 +204,8 @@ public final class SidesEdgesTest extends Checks {
         due(tell(f, "ababab/ababab").closest(), 0, "six and six");
         due(tell(f, "aaaaaa/a").closest(), 0, "six and one");
         due(tell(f, "b/ebe").closest(), 0, "one and three");
-        String[] bad = {"", "/", "/a", "a", "a/", "aaaaaa", "aaaaaaa/a", "aaaaaa,a", "a/aaaaaaa", "a/a/", "a/a/a", "a//a",
-            "a/0", "0/a", "a /a", "a/ a", "a/a ", "V/a", "a/V", "aaaaaa/aaaaaaa"};
+        String[] bad = {"", "/", "/a", "a", "a/", "aaaaaa", "aaaaaaa/a", "aaaaaa,a", "a/aaaaaaa", "a/a/", "a/a/a",
+            "a//a", "a/0", "0/a", "a /a", "a/ a", "a/a ", "V/a", "a/V", "aaaaaa/aaaaaaa"};
         int[] at = {0, 0, 0, 1, 2, 6, 6, 6, 8, 3, 3, 2, 2, 0, 1, 2, 3, 0, 2, 13};
         for (int i = 0; i < bad.length; i++) {
             due(tell(f, bad[i]).closest(), -21 - at[i], "closest() of '" + bad[i] + "'");
@@ -437,6 +437,19 @@ public final class SidesEdgesTest extends Checks {
         due(tell(f, "b").finds(), 1, "finds()");
         due(f.word(0, NONE), 1, "ENTRIES, the fewest");
         throwsNone(() -> f.word(0, 1), "ENTRY 1 behind a longer WORD");
+        FormSpeller g = addEntry(addEntry(with("a b"), "a", 0, NONE), "b", 0, NONE);
+        for (int e = 2; e < 16; e++) {
+            addEntry(g, "a", e < 6 ? 0 : 1, e < 6 ? 1 : NONE);
+        }
+        due(tell(g, "aa").finds(), 40, "finds()");
+        due(g.word(19, NONE), 2, "ENTRIES of the 20th");
+        throwsNone(() -> g.word(20, NONE), "the 21st");
+        due(tell(g, "b").finds(), 1, "finds() of fewer");
+        throwsNone(() -> g.word(1, NONE), "the second of one behind more");
+        throwsNone(() -> g.word(1, 0), "the second of one behind more");
+        throwsNone(() -> g.word(19, NONE), "the 20th of one behind more");
+        throwsNone(() -> g.kept(1, NONE), "kept() of the second of one behind more");
+        throwsNone(() -> g.side(1, 0, NONE), "side() of the second of one behind more");
         due(tell(f, "ab").spells() > 0, true, "spells()");
         throwsWord(f);
         tell(f, "b").finds();

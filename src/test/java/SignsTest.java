@@ -15,36 +15,21 @@ public final class SignsTest extends Checks {
     private static final String[] SETS = {"V=ab", "W=+"};
     private static final String[] RULES = {"a:b=>_+", "a:b<=V_:0", "b:b/<=:W_#"};
 
-    private static void tellBoth(FormSpeller f, Oracle o, String s) {
-        for (int i = 0; i < s.length(); i += 4) {
-            int v = 0;
-            for (int j = i; j < i + 4; j++) {
-                v = v << 8 | (j < s.length() ? s.charAt(j) : 'a');
-            }
-            f.sign(v);
-            o.sign(v);
-        }
-        f.end(s.length());
-        o.end(s.length());
-    }
-
     private static void compare(String s, Ask ask, String what) {
         FormSpeller f = new FormSpeller();
         Oracle o = new Oracle();
-        tellBoth(f, o, PAIRS);
-        f.pairs();
-        o.pairs();
+        tell(f, PAIRS).pairs();
+        o.tell(PAIRS).pairs();
         for (String set : SETS) {
-            tellBoth(f, o, set);
-            f.names();
-            o.names();
+            tell(f, set).names();
+            o.tell(set).names();
         }
         for (String rule : RULES) {
-            tellBoth(f, o, rule);
-            f.rule();
-            o.rule();
+            tell(f, rule).rule();
+            o.tell(rule).rule();
         }
-        tellBoth(f, o, s);
+        tell(f, s);
+        o.tell(s);
         due(ask.of(f, null), ask.of(null, o), what + " of '" + s + "'");
         for (int counted = 0; counted < 8; counted++) {
             due(f.count(counted), o.count(counted), "count(" + counted + ") behind " + what + " of '" + s + "'");

@@ -181,6 +181,27 @@ public final class ToldEdgesTest extends Checks {
         due(tell(f, "a:a=>V_").rule(), 0, "the first RULE");
         due(tell(f, "c").entry(0, NONE), 0, "the first ENTRY");
         due(tell(f, "c a").judges(), 0, "the new SET");
+        f = with("a:x b:y c:0 0:z d:x");
+        due(tell(f, "b:x a:y 0:0 c").pairs(), -31, "pairs() that is refused");
+        due(tell(f, "x").reads() + 10 * tell(f, "z").reads(), 36 * 2 + 10 * 36, "LOWER signs as before");
+        due(tell(f, "c:x b:0 a:y 0:x").pairs(), 4, "pairs() with other LOWER signs");
+        due(tell(f, "x").reads(), 36 + 36, "LOWER sign x");
+        due(keptRow(f, 0), "0", "the first");
+        due(tell(f, "y").reads(), 36, "LOWER sign y");
+        due(tell(f, "z").reads(), 0, "a LOWER sign that went");
+        due(tell(f, "ab/y").closest(), 0, "closest()");
+        dueKept(f, "2 1");
+        due(tell(f, "c/x").closest(), 0, "closest()");
+        dueKept(f, "0");
+        due(tell(f, "c/z").closest(), -2, "closest() with a LOWER sign that went");
+        due(tell(f, "d").spells(), 0, "spells() with an UPPER sign that went");
+        due(f.count(7), 1 << 3, "INSERTS");
+        due(tell(f, "c b a").pairs(), 3, "pairs() without a LOWER 0");
+        due(tell(f, "a").reads(), 1, "reads()");
+        due(tell(f, "a").spells(), 1, "spells()");
+        due(tell(f, "a").spellings(), 1, "spellings()");
+        f = with("a b");
+        due(tell(f, "c a").pairs(), 2, "pairs()");
         due(tell(f, "c a").pairs(), 2, "pairs() with the same PAIRS");
         due(f.count(0) + 10 * f.count(1) + 100 * f.count(2) + 1000 * f.count(3), 2, "what there is");
     }
@@ -276,6 +297,7 @@ public final class ToldEdgesTest extends Checks {
 
         on("promise 6: -21 - p (a third PART of LEFT, a second one of RIGHT: its first sign)");
         String[] parts = {"a", ":b", "a:b", ".", "V", "V:V", ":0", "0:e", "0", "#"};
+        f = with("a b a:b 0:e a:0", "V=ab");
         for (String part : parts) {
             due(tell(f, "a:a=>a." + part + "_").rule(), -28, part + " behind two PARTS of LEFT");
             due(tell(f, "a:a=>a:b:b" + part + "_").rule(), -31, part + " behind a:b and :b");
@@ -286,7 +308,7 @@ public final class ToldEdgesTest extends Checks {
         }
         due(tell(f, "a:a=>a:b:b:b_").rule(), -31, "a third : l");
         due(tell(f, "a:a=>ab:b:b_").rule(), -30, "a third : l behind u and u : l");
-        due(f.count(2), 6, "RULES");
+        due(f.count(2), 0, "RULES");
 
         on("promise 6: -21 - p (a capital letter that is no SET; in u : l ahead of the SORT a SET)");
         due(tell(f, "a:a=>W_").rule(), -26, "no SET as u of LEFT");
@@ -297,7 +319,7 @@ public final class ToldEdgesTest extends Checks {
         due(tell(f, "V:a=>_").rule(), -21, "a SET as u ahead of the SORT");
         due(tell(f, "a:V=>_").rule(), -23, "a SET as l ahead of the SORT");
         due(tell(f, "W:a=>_").rule(), -21, "no SET as u ahead of the SORT");
-        due(tell(f, "a:a=>VV_V").rule(), 6, "a SET in each PART");
+        due(tell(f, "a:a=>VV_V").rule(), 0, "a SET in each PART");
 
         on("promise 6: -2: no PAIR is that u : l (0 : 0 never is)");
         due(tell(f, "b:a=>_").rule(), -2, "b:a");
@@ -306,7 +328,7 @@ public final class ToldEdgesTest extends Checks {
         due(tell(f, "0:0=>_").rule(), -2, "0:0");
         due(tell(f, "z:z=>_").rule(), -2, "no such LETTER");
         due(tell(f, "0:0=>").rule(), -26, "0:0 in a text that ends too early");
-        due(f.count(2), 7, "RULES");
+        due(f.count(2), 1, "RULES");
     }
 
     private static void drops() {
@@ -347,6 +369,20 @@ public final class ToldEdgesTest extends Checks {
         due(f.ruleOf(1, 0), 1, "PAIR of the last one");
         due(f.ruleOf(1, 3), 1, "PARTS of RIGHT of the last one");
         due(f.count(0) + 10 * f.count(3), 4, "PAIRS stay");
+
+        on("promise 7: nothing is left of a RULE that went");
+        f = with("a b c", "a:a/<=bb_b");
+        due(tell(f, "b b a b").judges(), 1, "judges() of the first");
+        f.drops(0);
+        due(tell(f, "b b a b").judges(), 0, "judges() without it");
+        tell(f, "a:a/<=cc_c").rule();
+        due(tell(f, "b b a b b c a c c b a c c c a b").judges(), 0, "judges() of what both fit in part");
+        due(tell(f, "c c a c").judges(), 1, "judges() of the second");
+        f.drops(0);
+        tell(f, "b:b=>c_").rule();
+        due(tell(f, "c c a c b a").judges(), 0, "judges() of the third");
+        due(f.rows(1), 2, "rows(1) of the third");
+        due(tell(f, "b").judges(), 1, "judges() of the third");
     }
 
     private static void entry() {
