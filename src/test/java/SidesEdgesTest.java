@@ -247,6 +247,13 @@ public final class SidesEdgesTest extends Checks {
         due(tell(f, "aa/ab").closest(), 1, "one that ought to be another");
         due(tell(f, "aa/bb").closest(), 0, "none");
 
+        f = with("a:0 a:b 0:b", "a:b=>0_", "a:0/<=_:b");
+        due(tell(f, "aaaaaa/bbbbbb").closest(), 0, "six LETTERS below three");
+        dueKept(f, "2 1 2 1 2 1 0 0 0");
+        f = with("a:0 0:b a", "a:0/<=#_");
+        due(tell(f, "aaaaaa/ba").closest(), 0, "an INSERT ahead of all");
+        dueKept(f, "1 0 0 0 0 0 2");
+
         on("promise 18: KEPT: the first such one by ORDER");
         f = with("0:b a:0 a:b");
         due(tell(f, "a/b").closest(), 0, "three rows that break nothing");
