@@ -1405,8 +1405,9 @@ public final class FormSpeller {
             if (depth > DEEPEST || stage == NONE || state == NONE) {
                 return 0;
             }
+            boolean noted = !isBareEntry(stage);
             int key = stage * machine.size + state;
-            long known = memo.find(key);
+            long known = noted ? memo.find(key) : NONE;
             if (known >= 0) {
                 return known;
             }
@@ -1423,8 +1424,18 @@ public final class FormSpeller {
                     sum += ways(stageWith(stage, e), state, depth + 1);
                 }
             }
-            memo.put(key, sum);
+            if (noted) {
+                memo.put(key, sum);
+            }
             return sum;
+        }
+
+        /**
+         * Of FINDS: an ENTRY without any LETTER done. Hardly any way but one leads there with the same state, so noting
+         * what is found there would fill the memo, and what is worth more would be found again and again.
+         */
+        private boolean isBareEntry(int stage) {
+            return kind == FINDS && entryIn(stage) < CHOICE && lettersIn(stage) == 0;
         }
 
         /** Keeps the first rows that go on from a stage and a state, behind what path and word hold already. */

@@ -612,6 +612,88 @@ final class Oracle {
         return found.size();
     }
 
+    /**
+     * What finds() answers, for a lexicon too large to go through WORD by WORD: the ways that lead to each CLASS are
+     * counted by LETTERS of the WORD so far, LETTERS read, and the last three pairs.
+     */
+    long readingsByTheirEnds(String low) {
+        Map<Integer, Map<List<Integer>, Long>> open = new TreeMap<>();
+        open.put(0, Map.of(List.of(0), 1L));
+        long sum = 0;
+        for (int letters = 0; letters < 6; letters++) {
+            for (Entry e : entries) {
+                int behind = letters + e.form.length();
+                Map<List<Integer>, Long> ways = open.getOrDefault(4 * letters + e.group, Map.of());
+                for (int k = 0; k < e.form.length() && behind <= 6; k++) {
+                    ways = waysBehind(ways, e.form.charAt(k), low);
+                }
+                if (behind <= 6 && e.next == -1) {
+                    sum += waysToTheEnd(ways, low);
+                } else if (behind <= 6) {
+                    Map<List<Integer>, Long> to = open.computeIfAbsent(4 * behind + e.next, x -> new LinkedHashMap<>());
+                    ways.forEach((key, number) -> to.merge(key, number, Long::sum));
+                }
+            }
+        }
+        return sum;
+    }
+
+    private Map<List<Integer>, Long> waysBehind(Map<List<Integer>, Long> ways, char letter, String low) {
+        Map<List<Integer>, Long> longer = new LinkedHashMap<>();
+        for (Map.Entry<List<Integer>, Long> way : ways.entrySet()) {
+            List<List<Integer>> begun = withInserts(way.getKey(), low);
+            begun.add(way.getKey());
+            for (List<Integer> key : begun) {
+                for (int p = 0; p < pairs.size(); p++) {
+                    List<Integer> to = upper(p) == letter ? keyBehind(key, p, low) : null;
+                    if (to != null) {
+                        longer.merge(to, way.getValue(), Long::sum);
+                    }
+                }
+            }
+        }
+        return longer;
+    }
+
+    private List<List<Integer>> withInserts(List<Integer> key, String low) {
+        List<List<Integer>> found = new ArrayList<>();
+        for (int p = 0; p < pairs.size(); p++) {
+            List<Integer> to = isInsert(p) ? keyBehind(key, p, low) : null;
+            if (to != null) {
+                found.add(to);
+            }
+        }
+        return found;
+    }
+
+    /** LETTERS read and then the last three pairs, behind a further pair; null if it can't stand there. */
+    private List<Integer> keyBehind(List<Integer> key, int p, String low) {
+        int read = key.get(0);
+        List<Integer> r = new ArrayList<>(key.subList(1, key.size()));
+        boolean doubled = !r.isEmpty() && isInsert(p) && isInsert(r.get(r.size() - 1));
+        boolean fits = lower(p) == '0' || read < low.length() && low.charAt(read) == lower(p);
+        r.add(p);
+        if (doubled || !fits || r.size() > 1 && !isGoodAt(r, r.size() - 2)) {
+            return null;
+        }
+        List<Integer> to = new ArrayList<>(r.subList(Math.max(0, r.size() - 3), r.size()));
+        to.add(0, lower(p) == '0' ? read : read + 1);
+        return to;
+    }
+
+    private long waysToTheEnd(Map<List<Integer>, Long> ways, String low) {
+        long sum = 0;
+        for (Map.Entry<List<Integer>, Long> way : ways.entrySet()) {
+            List<List<Integer>> ends = withInserts(way.getKey(), low);
+            ends.add(way.getKey());
+            for (List<Integer> key : ends) {
+                List<Integer> r = key.subList(1, key.size());
+                sum += key.get(0) == low.length() && isGoodAt(r, r.size() - 1) ? way.getValue() : 0;
+            }
+        }
+        return sum;
+    }
+
     public int closest() {
         String s = takeText();
         int bad = firstBad(TWO_ROWS, s);
