@@ -1079,7 +1079,7 @@ public final class FormSpeller {
      * what comes is not noted: it is found again where it is needed.
      */
     private static final class Memo {
-        private static final int MOST_ROOM = 1 << 16;
+        private static final int MOST_ROOM = 1 << 18;
 
         /** The number of the call in the high half, the key in the low one. */
         long[] tags = new long[256];

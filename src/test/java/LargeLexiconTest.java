@@ -29,19 +29,30 @@ public final class LargeLexiconTest extends Checks {
     }
 
     private static void compare(String pairs, String[] rules, String[] forms, boolean classes, String... rows) {
+        int[] groups = new int[16];
+        int[] nexts = new int[16];
+        for (int e = 0; e < 16; e++) {
+            groups[e] = classes && e % 5 == 4 ? 1 : 0;
+            nexts[e] = e % 4 == 0 ? NONE : classes && e % 3 == 0 ? 1 : 0;
+        }
+        String[] sets = {set(0), set(1), set(2), set(3)};
+        compare(pairs, sets, rules, forms, groups, nexts, rows);
+    }
+
+    private static void compare(String pairs, String[] sets, String[] rules, String[] forms, int[] groups, int[] nexts,
+            String... rows) {
         FormSpeller tried = new FormSpeller();
         Oracle due = new Oracle();
         due(tell(tried, pairs).pairs(), due.tell(pairs).pairs(), "pairs() of " + pairs);
-        for (int k = 0; k < 4; k++) {
-            due(tell(tried, set(k)).names(), due.tell(set(k)).names(), "names() of " + set(k));
+        for (String set : sets) {
+            due(tell(tried, set).names(), due.tell(set).names(), "names() of " + set);
         }
         for (String rule : rules) {
             due(tell(tried, rule).rule(), due.tell(rule).rule(), "rule() of " + rule);
         }
         for (int e = 0; e < 16; e++) {
-            int group = classes && e % 5 == 4 ? 1 : 0;
-            int next = e % 4 == 0 ? NONE : classes && e % 3 == 0 ? 1 : 0;
-            due(tell(tried, forms[e]).entry(group, next), due.tell(forms[e]).entry(group, next), forms[e]);
+            due(tell(tried, forms[e]).entry(groups[e], nexts[e]), due.tell(forms[e]).entry(groups[e], nexts[e]),
+                "entry() of " + forms[e]);
         }
         for (String row : rows) {
             long readings = due.readingsByTheirEnds(row);
@@ -88,6 +99,15 @@ public final class LargeLexiconTest extends Checks {
         compare(pairs(2), near, single, true, "xxxxxx", "xxyxxy", "xx");
         on("other RULES, longer FORMS");
         compare(pairs(1), near, mixed, true, "xxxxxx", "xxxxx", "xx");
+        on("the most that was found to be noted");
+        String pairs = "a:0 e:0 d:x c:0 0:x d:0 b:0 b:x g:0 h:x c:x g:x h:0 e:x e:z a:x";
+        String[] sets = {"A=abcdefghz", "B=bcegh", "C=abcdeghxyz", "D=bdghyz"};
+        String[] rules = {"e:z<=B._0", "e:z<=eC_h", "e:z<=>DC_e:x", "e:z<=>0._#", "e:z<=>hA_g", "e:z<=>b._c",
+            "g:0/<=dA_A", "e:z<=:C._a"};
+        String[] forms = "h b e d eg g ed e e eh c ec ed h eb a".split(" ");
+        int[] groups = {3, 0, 0, 0, 0, 0, 0, 0, 0, 0, 0, 0, 0, 0, 0, 0};
+        int[] nexts = {-1, 0, 0, 0, 0, 0, 3, -1, 3, 0, 0, 0, 0, 0, 0, 0};
+        compare(pairs, sets, rules, forms, groups, nexts, "xxxxxx", "xxxzxx");
         finish("with a large lexicon all is as due");
     }
 }
